@@ -614,10 +614,8 @@ public final class AsWithTheLast {
         }
 
         void copyFrom(Numbers other) {
-            size = 0;
-            for (int i = 0; i < other.size; i++) {
-                add(other.at(i));
-            }
+            size = Math.max(0, Math.min(other.size, Math.min(items.length, other.items.length)));
+            System.arraycopy(other.items, 0, items, 0, size);
         }
     }
 

@@ -10,12 +10,12 @@ import java.util.TreeSet;
 /** The face as the document has it, nothing else to be seen; and no call ever throws, whatever it is given. */
 public final class FaceTest {
     private static final String[] FACE = {"write(int)", "wipe()", "fault()", "lay()", "kind(int,int)", "errand(int)",
-        "word(int)", "unlike(int,int)", "does(int,int)", "hand(int)", "teach(int,int)", "undo()", "tell(int)", "noRow()",
-        "run(int,int,int)", "round()", "order(int)", "best(int)", "seen(int,int)", "forget()", "fits()", "firsts(int)",
-        "ask(int)", "rule(int)", "wrong(int,int,boolean)", "byTurns(int)", "mean(int,int)", "year(int,int,int)", "keep()",
-        "back()", "count(int)"};
-    private static final int[] EXTREMES = {0, 1, 2, 3, 4, 5, 6, 7, 9, 10, 31, 32, 59, 60, 61, 101, 107, 108, 9999, 10000,
-        -1, -2, -4, Integer.MAX_VALUE, Integer.MIN_VALUE, Integer.MAX_VALUE - 1, 65521, 1 << 30};
+        "word(int)", "unlike(int,int)", "does(int,int)", "hand(int)", "teach(int,int)", "undo()", "tell(int)",
+        "noRow()", "run(int,int,int)", "round()", "order(int)", "best(int)", "seen(int,int)", "forget()", "fits()", "firsts(int)",
+        "ask(int)", "rule(int)", "wrong(int,int,boolean)", "byTurns(int)", "mean(int,int)", "year(int,int,int)",
+        "keep()", "back()", "count(int)"};
+    private static final int[] EXTREMES = {0, 1, 2, 3, 4, 5, 6, 7, 9, 10, 31, 32, 59, 60, 61, 101, 107, 108, 9999,
+        10000, -1, -2, -4, Integer.MAX_VALUE, Integer.MIN_VALUE, Integer.MAX_VALUE - 1, 65521, 1 << 30};
     private static final Check CHECK = new Check();
 
     public static void main(String[] args) throws Exception {

@@ -111,7 +111,8 @@ public final class LessonsTest {
     private static void faultOfOthers() {
         CHECK.about("promise 4, learner and errands");
         String[] wrong = {"l4;", "f6;", "e1;", "e2;", "e99;", "l10;", "f10;", "l;", "f;", "e;", "l1", "f1", "e0", "l1,",
-            "l1,2;", "f0,0;", "e0,0;", "l001;", "e000;", ";", " ", "L1;", "F1;", "E0;", "m0;", "0;", ",", "l 1;", "j1;"};
+            "l1,2;", "f0,0;", "e0,0;", "l001;", "e000;", ";", " ", "L1;", "F1;", "E0;", "m0;", "0;", ",", "l 1;",
+            "j1;"};
         for (String item : wrong) {
             faultIs(PLAIN + item, 11);
             faultIs(PLAIN + "l2;" + item + "e0;", 14);

@@ -82,7 +82,7 @@ public final class RowsTest {
 
     private static void round() {
         CHECK.about("promise 17");
-        int[] rounds = {1, 2, 3, 5, 7, 10, 19, 20, NONE};
+        int[] rounds = {1, 2, 3, 5, 7, 10, 19, 20, NONE, 7};
         String[] texts = {"k1,3,0,1,1;l0;f4;e0;", "k5,1,0,1,1;k0,4,0,1,1;l1;f1;e1;e0;e1;",
             "k2,3,0,1,1;k2,2,0,1,1;l1;f1;e0;e1;",
             "k1,4,0,1,1;k1,1,0,1,1;k29,2,0,1,1;k3,0,0,1,1;k9,5,0,1,1;k29,5,0,1,1;l2;f3;"
@@ -91,7 +91,9 @@ public final class RowsTest {
             "k8,0,0,1,1;k9,2,0,1,1;k9,4,0,1,1;l2;f1;e2;e0;e1;e2;e1;",
             "k0,3,0,1,1;k0,2,0,1,1;k6,5,0,1,1;k1,2,0,1,1;k9,0,0,1,1;l2;f2;e3;e0;e1;e2;e0;e4;",
             "k5,0,0,1,1;k5,3,0,1,1;k1,5,0,1,1;l2;f2;e2;e0;e1;",
-            "k26,4,0,1,1;k4,3,0,1,1;k2,1,0,1,1;k2,5,0,1,1;l2;f4;e1;e3;e0;e1;e2;"};
+            "k26,4,0,1,1;k4,3,0,1,1;k2,1,0,1,1;k2,5,0,1,1;l2;f4;e1;e3;e0;e1;e2;",
+            // Here the first time is as the second, but the third is another.
+            "k15,3,0,1,1;k29,5,0,1,1;k26,2,0,1,1;k29,2,0,1,1;l2;f3;e0;e1;e3;e1;e3;e1;e3;"};
         for (int i = 0; i < texts.length; i++) {
             AsWithTheLast x = Texts.laid(texts[i]);
             CHECK.due("round() of " + texts[i], x.round(), rounds[i]);

@@ -28,6 +28,8 @@ public final class TurnsTest {
         turnsAre(Texts.laid("k0,0,62,5,1;k1,1,61,9,1;l3;"), 0, 0);
         turnsAre(Texts.laid("k0,0,62,5,1;k1,1,61,9,1;l3;f2;"), 5, 5);
         turnsAre(Texts.laid("k0,0,0,20,1;k1,1,0,20,1;"), 0, 0);
+        // What he hears of the first thing spares her a word: with two words of three kinds one thing is spoilt.
+        turnsAre(Texts.laid("k0,0,62,5,1;k1,1,61,5,1;k2,2,59,5,1;l3;f5;"), 5, 5);
         // BEFORE: the first word that she teaches is not what he goes by.
         turnsAre(Texts.laid("k0,0,62,5,1;l1;f2;"), 5, 5);
         // Here no word is best: the last but one is 3, which spoils nothing; any word makes it 1, which does.
@@ -61,8 +63,9 @@ public final class TurnsTest {
         meanIs(one, 3, 7, 1);
         AsWithTheLast none = Texts.laid("k0,1,0,7,9;k0,1,0,7,9;");
         meanIs(none, 3, 0, 1);
-        // Nothing fits in lowest terms here: 54 chances, and a mean by the cube of them.
-        AsWithTheLast six = Texts.laid("k0,0,63,20,9;k1,1,63,20,9;k2,2,63,20,9;k4,3,63,20,9;k8,4,63,20,9;k16,5,63,20,9;");
+        // All six chances are 9: over 54 and its powers, in lowest terms.
+        AsWithTheLast six = Texts.laid("k0,0,63,20,9;k1,1,63,20,9;k2,2,63,20,9;k4,3,63,20,9;k8,4,63,20,9;"
+                + "k16,5,63,20,9;");
         meanIs(six, 1, 50, 3);
         meanIs(six, 2, 100, 3);
         meanIs(six, 3, 50, 1);
