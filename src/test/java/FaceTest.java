@@ -11,7 +11,8 @@ import java.util.TreeSet;
 public final class FaceTest {
     private static final String[] FACE = {"write(int)", "wipe()", "fault()", "lay()", "kind(int,int)", "errand(int)",
         "word(int)", "unlike(int,int)", "does(int,int)", "hand(int)", "teach(int,int)", "undo()", "tell(int)",
-        "noRow()", "run(int,int,int)", "round()", "order(int)", "best(int)", "seen(int,int)", "forget()", "fits()", "firsts(int)",
+        "noRow()", "run(int,int,int)", "round()", "order(int)", "best(int)", "seen(int,int)", "forget()", "fits()",
+        "firsts(int)",
         "ask(int)", "rule(int)", "wrong(int,int,boolean)", "byTurns(int)", "mean(int,int)", "year(int,int,int)",
         "keep()", "back()", "count(int)"};
     private static final int[] EXTREMES = {0, 1, 2, 3, 4, 5, 6, 7, 9, 10, 31, 32, 59, 60, 61, 101, 107, 108, 9999,
