@@ -92,9 +92,9 @@ public final class FaceTest {
                 .filter(method -> !isHidden(method)).toArray(Method[]::new);
         Arrays.sort(calls, (a, b) -> a.toString().compareTo(b.toString()));
         String letters = "k0,0,62,20,9;l2;f3;e0;e0;";
-        for (int run = 0; run < 20; run++) {
-            AsWithTheLast x = new AsWithTheLast();
-            for (int i = 0; i < 2500; i++) {
+        for (int run = 0; run < 100; run++) {
+            AsWithTheLast x = run % 2 == 0 ? new AsWithTheLast() : Texts.laid(letters);
+            for (int i = 0; i < 240; i++) {
                 Method call = calls[draw.nextInt(calls.length)];
                 if (call.getName().equals("wipe") && draw.nextInt(30) > 0) {
                     continue;
@@ -104,7 +104,7 @@ public final class FaceTest {
                     given[p] = call.getParameterTypes()[p] == boolean.class ? (Object) draw.nextBoolean()
                             : (Object) EXTREMES[draw.nextInt(draw.nextBoolean() ? 4 : EXTREMES.length)];
                 }
-                if (call.getName().equals("write") && draw.nextInt(10) > 0) {
+                if (call.getName().equals("write") && draw.nextInt(4) > 0) {
                     given[0] = (int) letters.charAt(x.count(11) % letters.length());
                 }
                 call.invoke(x, given);
