@@ -1049,7 +1049,7 @@ public final class AsWithTheLast {
             }
             tried.fill(lesson.errands.size(), 0);
             least = MORE_THAN_ANY;
-            tryFrom(he, 0, 0);
+            tryFrom(this, he, 0, 0);
         }
 
         private void addLeft(int kind, int more) {
@@ -1057,22 +1057,22 @@ public final class AsWithTheLast {
         }
 
         /** The lower KINDS are tried first, so a later row has to be less, not as much, to be the best. */
-        private void tryFrom(Learner he, int place, int lost) {
-            if (lost >= least) {
+        private static void tryFrom(Orders orders, Learner he, int place, int lost) {
+            if (lost >= orders.least) {
                 return;
             }
-            if (place >= tried.size()) {
-                least = lost;
-                best.copyFrom(tried);
+            if (place >= orders.tried.size()) {
+                orders.least = lost;
+                orders.best.copyFrom(orders.tried);
                 return;
             }
-            for (int k = 0; k < lesson.kinds(); k++) {
-                Learner after = left.at(k) > 0 ? he.stepDown() : null;
+            for (int k = 0; k < orders.lesson.kinds(); k++) {
+                Learner after = orders.left.at(k) > 0 ? he.stepDown() : null;
                 if (after != null) {
-                    addLeft(k, -1);
-                    tried.put(place, k);
-                    tryFrom(after, place + 1, lost + lesson.lost(k, after.day(k)));
-                    addLeft(k, 1);
+                    orders.addLeft(k, -1);
+                    orders.tried.put(place, k);
+                    tryFrom(orders, after, place + 1, lost + orders.lesson.lost(k, after.day(k)));
+                    orders.addLeft(k, 1);
                 }
             }
         }
